@@ -60,8 +60,7 @@ public final class HydrantRows {
         return number;
     }
 
-    public void limit(int main, int flow)
-            throws IllegalArgumentException, IndexOutOfBoundsException {
+    public void limit(int main, int flow) throws IllegalArgumentException, IndexOutOfBoundsException {
         needMain(main);
         needFlow(flow);
         limits[main] = flow;
@@ -72,7 +71,8 @@ public final class HydrantRows {
     }
 
     public int test(int hydrant, int day, int rest, int flow, int left)
-            throws IllegalArgumentException, IndexOutOfBoundsException, IllegalStateException, UnsupportedOperationException {
+            throws IllegalArgumentException, IndexOutOfBoundsException, IllegalStateException,
+            UnsupportedOperationException {
         Hydrant tested = known(hydrant);
         needDay(day);
         needPressure(rest);
@@ -106,15 +106,13 @@ public final class HydrantRows {
         return (what == 0 ? upper : lower) / Math.max(1, commonDivisor(upper, lower));
     }
 
-    public int sort(int hydrant)
-            throws IllegalArgumentException, IllegalStateException, ArithmeticException {
+    public int sort(int hydrant) throws IllegalArgumentException, IllegalStateException, ArithmeticException {
         Test counting = countingTest(known(hydrant));
         needTold(counting, CLASS_PRESSURE);
         return Math.min(counting.wholeAt(CLASS_PRESSURE) / CLASS_STEP, HIGHEST_CLASS);
     }
 
-    public void defect(int hydrant, int grade)
-            throws IllegalArgumentException, IndexOutOfBoundsException {
+    public void defect(int hydrant, int grade) throws IllegalArgumentException, IndexOutOfBoundsException {
         Hydrant asked = known(hydrant);
         if (grade < 0 || grade > SEVERE) {
             throw new IndexOutOfBoundsException("no such defect");
@@ -123,7 +121,8 @@ public final class HydrantRows {
     }
 
     public void works(int hydrant, int from, int to)
-            throws IllegalArgumentException, IndexOutOfBoundsException, IllegalStateException, UnsupportedOperationException {
+            throws IllegalArgumentException, IndexOutOfBoundsException, IllegalStateException,
+            UnsupportedOperationException {
         Hydrant asked = known(hydrant);
         needDay(from);
         needDay(to);
@@ -150,15 +149,13 @@ public final class HydrantRows {
         asked.setDry(month, dry);
     }
 
-    public boolean usable(int hydrant, int day)
-            throws IllegalArgumentException, IndexOutOfBoundsException {
+    public boolean usable(int hydrant, int day) throws IllegalArgumentException, IndexOutOfBoundsException {
         Hydrant asked = known(hydrant);
         needDay(day);
         return asked.isUsable(day, privateAllowed);
     }
 
-    public int near(int x, int y, int day, int i)
-            throws IndexOutOfBoundsException {
+    public int near(int x, int y, int day, int i) throws IndexOutOfBoundsException {
         needPlace(x, y);
         needDay(day);
         needNotBelowZero(i);
@@ -188,8 +185,7 @@ public final class HydrantRows {
         return first.main == second.main ? Math.min(sum * 3 / 4, limitOf(first.main)) : sum;
     }
 
-    public int supply(int x, int y, int day, int pressure, int hose)
-            throws IndexOutOfBoundsException {
+    public int supply(int x, int y, int day, int pressure, int hose) throws IndexOutOfBoundsException {
         needPlace(x, y);
         needDay(day);
         needPressure(pressure);
@@ -203,8 +199,7 @@ public final class HydrantRows {
         return sum;
     }
 
-    public int round(long hydrants, int n)
-            throws IllegalArgumentException, IndexOutOfBoundsException {
+    public int round(long hydrants, int n) throws IllegalArgumentException, IndexOutOfBoundsException {
         int told = Math.min(n, MOST_STOPS);
         for (int i = 0; i < told; i++) {
             known(toldStop(hydrants, i));
@@ -223,14 +218,12 @@ public final class HydrantRows {
         return walk.leastMetres();
     }
 
-    public int stop(int i)
-            throws IndexOutOfBoundsException {
+    public int stop(int i) throws IndexOutOfBoundsException {
         needNotBelowZero(i);
         return walk.stopAt(i);
     }
 
-    public int overdue(int day, int days, int i)
-            throws IndexOutOfBoundsException {
+    public int overdue(int day, int days, int i) throws IndexOutOfBoundsException {
         needDay(day);
         if (days < 0 || days > MOST_DAYS_AGO) {
             throw new IndexOutOfBoundsException("no such number of days");
@@ -245,8 +238,7 @@ public final class HydrantRows {
         return ranking.numberAt(i);
     }
 
-    public int testAt(int i, int what)
-            throws IllegalArgumentException {
+    public int testAt(int i, int what) throws IllegalArgumentException {
         Test asked = i >= 0 && i < testRow.length ? testRow[i] : null;
         if (asked == null) {
             throw new IllegalArgumentException("no such test");
@@ -261,8 +253,7 @@ public final class HydrantRows {
         }
     }
 
-    public int hydrantAt(int hydrant, int what)
-            throws IllegalArgumentException {
+    public int hydrantAt(int hydrant, int what) throws IllegalArgumentException {
         Hydrant asked = known(hydrant);
         switch (what) {
             case 0: return asked.main;

@@ -26,7 +26,8 @@ public final class FaceTest {
         Check.answers("[]", () -> privateNamesakes());
         for (Class<?> inside : HydrantRows.class.getDeclaredClasses()) {
             Check.answers(true, () -> Modifier.isStatic(inside.getModifiers()));
-            Check.answers(false, () -> Modifier.isPublic(inside.getModifiers()) || Modifier.isProtected(inside.getModifiers()));
+            Check.answers(false, () -> Modifier.isPublic(inside.getModifiers()));
+            Check.answers(false, () -> Modifier.isProtected(inside.getModifiers()));
         }
         Check.end();
     }

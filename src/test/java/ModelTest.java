@@ -120,7 +120,11 @@ public final class ModelTest {
         int hydrant = anyHydrant();
         int day = day();
         int rest = pressure();
-        int left = random.nextInt(4) == 0 ? rest : random.nextInt(4) == 0 ? pressure() : within(0, Math.max(1, rest % 2_001));
+        int left = switch (random.nextInt(6)) {
+            case 0, 1 -> rest;
+            case 2 -> pressure();
+            default -> within(0, Math.max(1, rest % 2_001));
+        };
         int flow = flowRate();
         same(() -> model.test(hydrant, day, rest, flow, left), () -> rows.test(hydrant, day, rest, flow, left));
     }

@@ -30,6 +30,7 @@ public final class PromisesTest {
         near();
         nearRefusals();
         both();
+        bothOnEachMain();
         bothRefusals();
         supply();
         supplyOfUsable();
@@ -500,6 +501,21 @@ public final class PromisesTest {
         Check.answers(80_000_000, () -> rows.both(0, 2, 0));
         rows.limit(3, 20_000);
         Check.answers(20_000, () -> rows.both(0, 1, 0));
+    }
+
+    private static void bothOnEachMain() {
+        Check.promise("13 both");
+        for (int main = 0; main < 20; main++) {
+            int limit = 100 + main;
+            HydrantRows rows = new HydrantRows();
+            rows.hydrant(0, 0, main, 0);
+            rows.hydrant(0, 0, main, 0);
+            rows.test(0, 0, 500, 300, 0);
+            rows.test(1, 0, 500, 300, 0);
+            Check.answers(450, () -> rows.both(0, 1, 0));
+            rows.limit(main, limit);
+            Check.answers(limit, () -> rows.both(0, 1, 0));
+        }
     }
 
     private static void bothRefusals() {
