@@ -654,6 +654,7 @@ public final class PromisesTest {
         Check.answers(60, () -> line.round(stops(2, 1, 0), 3));
         expectStops(line, 0, 2, 1);
         // An order and its reverse are as long as one another: the smaller number goes first.
+        // (What is due for these two comes from a script that tries all orders, not from work by hand.)
         HydrantRows ring = withPlaces(new int[][] {{5, -20}, {20, 5}, {-20, -5}, {-5, 20}, {20, 20}, {-20, -20}});
         Check.answers(170, () -> ring.round(stops(5, 4, 3, 2, 1, 0), 6));
         expectStops(ring, 0, 5, 2, 3, 4, 1);
