@@ -44,7 +44,7 @@ final class Check {
         });
     }
 
-    /** The exception's own class is told: the machine's ArrayIndexOutOfBoundsException is no IndexOutOfBoundsException. */
+    /** The exception's own class is told: the machine's ArrayIndexOutOfBoundsException is not the one that is due. */
     static String outcome(Call call) {
         try {
             return String.valueOf(call.answer());

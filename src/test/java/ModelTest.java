@@ -8,7 +8,8 @@ public final class ModelTest {
     private static final int CALLS_OF_ROUND = 8;
     private static final int[] EXTREMES = {
         -1, 0, 1, Integer.MIN_VALUE, Integer.MAX_VALUE, 2, 3, 5, 6, 7, 11, 12, 19, 20, 39, 40, 99, 100,
-        2_000, 2_001, 9_999, 10_000, 20_000, 20_001, 50_000, 50_001, -50_000, -50_001, 99_999, 100_000, 200_000, 200_001};
+        2_000, 2_001, 9_999, 10_000, 20_000, 20_001, 50_000, 50_001, -50_000, -50_001, 99_999, 100_000,
+        200_000, 200_001};
 
     private final Random random;
     private final HydrantRows rows = new HydrantRows();

@@ -1,10 +1,5 @@
 /** Each promise by examples worked out by hand: ordinary inputs, the edges that the document names, wrong inputs. */
-public final class PromisesTest {
-    private static final Class<IllegalArgumentException> UNKNOWN = IllegalArgumentException.class;
-    private static final Class<IndexOutOfBoundsException> OUTSIDE = IndexOutOfBoundsException.class;
-    private static final Class<IllegalStateException> STATE = IllegalStateException.class;
-    private static final Class<UnsupportedOperationException> NO_ROOM = UnsupportedOperationException.class;
-    private static final Class<ArithmeticException> NOT_TOLD = ArithmeticException.class;
+public final class PromisesTest extends Examples {
     private static final int[] NO_INDEX = {-1, Integer.MIN_VALUE};
     private static final int[] NO_DAY = {-1, 100_000, Integer.MIN_VALUE, Integer.MAX_VALUE};
     private static final int[] NO_PLACE = {-50_001, 50_001, Integer.MIN_VALUE, Integer.MAX_VALUE};
@@ -44,52 +39,6 @@ public final class PromisesTest {
         testAt();
         hydrantAt();
         Check.end();
-    }
-
-    /** Hydrants 0 .. count - 1, public, at 0, 0, on main 0. */
-    private static HydrantRows withHydrants(int count) {
-        HydrantRows rows = new HydrantRows();
-        for (int i = 0; i < count; i++) {
-            rows.hydrant(0, 0, 0, 0);
-        }
-        return rows;
-    }
-
-    private static long stops(int... numbers) {
-        long told = 0;
-        for (int i = 0; i < numbers.length; i++) {
-            told |= (long) numbers[i] << 6 * i;
-        }
-        return told;
-    }
-
-    private static void expectStops(HydrantRows rows, int... due) {
-        for (int i = 0; i < due.length; i++) {
-            int at = i;
-            Check.answers(due[i], () -> rows.stop(at));
-        }
-        Check.answers(-1, () -> rows.stop(due.length));
-    }
-
-    private static void expectNear(HydrantRows rows, int x, int y, int day, int... due) {
-        for (int i = 0; i < due.length; i++) {
-            int at = i;
-            Check.answers(due[i], () -> rows.near(x, y, day, at));
-        }
-        Check.answers(-1, () -> rows.near(x, y, day, due.length));
-    }
-
-    private static void expectOverdue(HydrantRows rows, int day, int days, int... due) {
-        for (int i = 0; i < due.length; i++) {
-            int at = i;
-            Check.answers(due[i], () -> rows.overdue(day, days, at));
-        }
-        Check.answers(-1, () -> rows.overdue(day, days, due.length));
-    }
-
-    private static void expectFlow(HydrantRows rows, int hydrant, int pressure, int upper, int lower) {
-        Check.answers(upper, () -> rows.flow(hydrant, pressure, 0));
-        Check.answers(lower, () -> rows.flow(hydrant, pressure, 1));
     }
 
     private static void newObject() {
@@ -613,14 +562,6 @@ public final class PromisesTest {
             Check.refuses(OUTSIDE, () -> rows.supply(0, 0, 0, 0, hose));
         }
         Check.answers(0, () -> rows.supply(50_000, -50_000, 99_999, 2_000, 200_000));
-    }
-
-    private static HydrantRows withPlaces(int[][] places) {
-        HydrantRows rows = new HydrantRows();
-        for (int[] place : places) {
-            rows.hydrant(place[0], place[1], 0, 0);
-        }
-        return rows;
     }
 
     private static void round() {
