@@ -53,6 +53,7 @@ public final class BoundariesTest extends Examples {
         roundFirstByNumbers();
         roundBitsBehind();
         stopsBehindRound();
+        roundForgotten();
         overdueByOneDay();
         overdueToCome();
         overdueOrder();
@@ -602,6 +603,15 @@ public final class BoundariesTest extends Examples {
         full.defect(0, 2);
         Check.answers(39, () -> full.near(0, 0, 0, 38));
         Check.answers(-1, () -> full.near(0, 0, 0, 39));
+        // Behind a shorter row nothing is left of a longer one.
+        for (int number = 2; number < 40; number++) {
+            full.defect(number, 2);
+        }
+        Check.answers(1, () -> full.near(0, 0, 0, 0));
+        for (int i = 1; i <= 40; i++) {
+            int at = i;
+            Check.answers(-1, () -> full.near(0, 0, 0, at));
+        }
     }
 
     /** Hydrants 0 and 1 on these mains: their flows at 0 centibar, and a half of them at 1. */
@@ -839,6 +849,25 @@ public final class BoundariesTest extends Examples {
         }
     }
 
+    private static void roundForgotten() {
+        Check.promise("the latest round");
+        HydrantRows rows = withPlaces(new int[][] {{1, 0}, {2, 0}, {3, 0}, {4, 0}, {5, 0}, {60, 0}, {70, 0}});
+        // A shorter round to far hydrants has nothing of the longer one to near hydrants before it.
+        Check.answers(120, () -> rows.round(stops(0, 1, 2, 3, 4, 5), 6));
+        Check.answers(140, () -> rows.round(stops(6, 5), 2));
+        expectStops(rows, 5, 6);
+        Check.answers(140, () -> rows.round(stops(6), 1));
+        expectStops(rows, 6);
+        // The same round again, and other calls in between, change nothing.
+        Check.answers(140, () -> rows.round(stops(6), 1));
+        rows.near(0, 0, 0, 0);
+        rows.overdue(0, 0, 0);
+        rows.supply(0, 0, 0, 0, 0);
+        rows.hydrant(0, 0, 0, 0);
+        rows.defect(6, 2);
+        expectStops(rows, 6);
+    }
+
     private static void overdueByOneDay() {
         Check.promise("whose test that counts is more than so many days (0 .. 9,999) ago on a day");
         HydrantRows rows = withHydrants(1);
@@ -900,6 +929,15 @@ public final class BoundariesTest extends Examples {
         Check.answers(1, () -> rows.overdue(0, 0, 0));
         Check.answers(-1, () -> rows.overdue(0, 0, 39));
         Check.answers(0, () -> rows.overdue(1, 0, 39));
+        // Behind a shorter row nothing is left of a longer one.
+        for (int number = 2; number < 40; number++) {
+            rows.test(number, 0, 1, 1, 1);
+        }
+        Check.answers(1, () -> rows.overdue(0, 0, 0));
+        for (int i = 1; i <= 40; i++) {
+            int at = i;
+            Check.answers(-1, () -> rows.overdue(0, 0, at));
+        }
     }
 
     private static void history() {
