@@ -14,6 +14,8 @@ public final class HydrantRows {
     private static final int HIGHEST_FLOW = 20_000;
     private static final int LONGEST_HOSE = 200_000;
     private static final int MOST_DAYS_AGO = 9_999;
+    /** Six hydrants are at most seven longest hoses from the start and back to it. */
+    private static final int BEYOND_ANY_ROUND = 7 * LONGEST_HOSE + 1;
 
     private static final int PRIVATE = 1;
     private static final int OTHER_WATER = 2;
@@ -565,7 +567,7 @@ public final class HydrantRows {
         }
 
         int leastMetres() {
-            least = Integer.MAX_VALUE;
+            least = BEYOND_ANY_ROUND;
             goOn(0, 0, 0, 0, 0);
             return least;
         }

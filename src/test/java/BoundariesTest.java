@@ -19,6 +19,7 @@ public final class BoundariesTest extends Examples {
         leftNotAboveRest();
         latestDayCounts();
         toldLastCounts();
+        testToComeCounts();
         flowIsStraight();
         flowInLowestTerms();
         nothingAtRest();
@@ -35,6 +36,7 @@ public final class BoundariesTest extends Examples {
         privateOnes();
         dryMonths();
         usableForAllReasons();
+        usableWhereNamed();
         hoseWithoutSign();
         nearByHoseThenNumber();
         nearEnds();
@@ -266,6 +268,23 @@ public final class BoundariesTest extends Examples {
             Check.answers(3, () -> rows.hydrantAt(0, 3));
             Check.answers(3, () -> rows.hydrantAt(0, 4));
         }
+    }
+
+    private static void testToComeCounts() {
+        Check.promise("The one of the latest day counts, be it to come by the day that is asked");
+        HydrantRows rows = withHydrants(2);
+        for (int hydrant = 0; hydrant < 2; hydrant++) {
+            rows.test(hydrant, 10, 400, 400, 200);
+            rows.test(hydrant, 99_999, 400, 1_600, 200);
+        }
+        for (int day : new int[] {0, 9, 10, 11, 99_998, 99_999}) {
+            Check.answers(3_200, () -> rows.supply(0, 0, day, 200, 0));
+            Check.answers(-1, () -> rows.overdue(day, 0, 0));
+        }
+        expectFlow(rows, 0, 200, 1_600, 1);
+        Check.answers(3, () -> rows.sort(0));
+        Check.answers(2_400, () -> rows.both(0, 1, 200));
+        Check.answers(1, () -> rows.hydrantAt(0, 3));
     }
 
     private static void flowIsStraight() {
@@ -557,6 +576,36 @@ public final class BoundariesTest extends Examples {
         Check.answers(true, () -> rows.usable(1, 0));
     }
 
+    /** Flows, classes, both, rounds and what is overdue are told of hydrants that are not usable as of others. */
+    private static void usableWhereNamed() {
+        Check.promise("NEAR .. are the usable ones, the flows of its usable hydrants: nothing else asks for it");
+        HydrantRows rows = new HydrantRows();
+        int[] kinds = {0, 0, 1, 2};
+        for (int i = 0; i < kinds.length; i++) {
+            rows.hydrant(i + 1, 0, i, kinds[i]);
+            rows.test(i, 0, 400, 1_000, 200);
+        }
+        rows.defect(0, 2);
+        rows.works(1, 0, 99_999);
+        for (int month = 0; month < 12; month++) {
+            rows.season(3, month, true);
+        }
+        expectNear(rows, 0, 0, 0);
+        Check.answers(0, () -> rows.supply(0, 0, 0, 200, 200_000));
+        for (int i = 0; i < kinds.length; i++) {
+            int hydrant = i;
+            int next = (i + 1) % kinds.length;
+            Check.answers(false, () -> rows.usable(hydrant, 0));
+            expectFlow(rows, hydrant, 200, 1_000, 1);
+            Check.answers(2, () -> rows.sort(hydrant));
+            Check.answers(2_000, () -> rows.both(hydrant, next, 200));
+            Check.answers(2 * (hydrant + 1), () -> rows.round(hydrant, 1));
+        }
+        Check.answers(8, () -> rows.round(stops(3, 2, 1, 0), 4));
+        expectStops(rows, 0, 1, 2, 3);
+        expectOverdue(rows, 1, 0, 0, 1, 2, 3);
+    }
+
     private static void hoseWithoutSign() {
         Check.promise("the difference of x and that of y together (without sign)");
         int[][] ways = {{3, 4}, {3, -4}, {-3, 4}, {-3, -4}, {7, 0}, {0, -7}};
@@ -790,6 +839,11 @@ public final class BoundariesTest extends Examples {
             new int[][] {{-50_000, -50_000}, {50_000, 50_000}, {-50_000, 50_000}, {50_000, -50_000}});
         Check.answers(500_000, () -> corners.round(stops(0, 1, 2, 3), 4));
         expectStops(corners, 0, 2, 1, 3);
+        // Two more inside make the least round longer. (What is due comes from a script that tries all orders.)
+        HydrantRows six = withPlaces(new int[][] {{25_000, 25_000}, {-25_000, -25_000}, {50_000, -50_000},
+            {50_000, 50_000}, {-50_000, -50_000}, {-50_000, 50_000}});
+        Check.answers(550_000, () -> six.round(stops(5, 4, 3, 2, 1, 0), 6));
+        expectStops(six, 0, 2, 3, 5, 4, 1);
     }
 
     private static void roundFirstByNumbers() {
