@@ -115,11 +115,11 @@ public final class ReadmeTest {
         }
     }
 
-    /** The exit code and what was printed. */
+    /** The exit code and what was printed; what goes to the error stream, such as a notice of the machine, is shown. */
     private static String outcome(List<String> block, Path work) throws IOException, InterruptedException {
         ProcessBuilder builder = new ProcessBuilder("sh", "-c", String.join("\n", block));
         builder.environment().put("TMPDIR", work.toString());
-        builder.redirectErrorStream(true);
+        builder.redirectError(ProcessBuilder.Redirect.INHERIT);
         Process process = builder.start();
         String printed = new String(process.getInputStream().readAllBytes()).strip();
         return process.waitFor() + " " + printed;
